@@ -3,6 +3,10 @@ import java.util.NoSuchElementException;
 /** Long runs of calls, made up by a fixed row of numbers: every answer is that of the model. */
 public final class ModelTest {
     private static final int KINDS = 43;
+    private static final String[] CURVED = {
+        "x^2-2", "x^3-x", "ex-3", "lx", "ax-1/2", "rx-1", "x*x*x-2*x+1/4", "1/x-2", "x-y", "e-x-x",
+        "x", "y", "x*y-1", "(x-1)/(x+1)", "x^2+y^2-1", "l(x^2+1)-1", "2-x", "-x", "x/10", "p-x",
+    };
     private static long state;
     private static int wrong;
 
@@ -133,12 +137,43 @@ public final class ModelTest {
         state = seed;
         Boxedvalue x = new Boxedvalue();
         Model m = new Model();
+        if (seed % 4 != 0) {
+            warmUp("run " + seed + " first", x, m);
+        }
         for (int i = 0; i < calls; i++) {
             String run = "run " + seed + " call " + i;
+            if (next(12) == 0) {
+                narrowBox(run, x, m, next(10));
+            }
             one(run, x, m);
             compare(run + " checksum", x::checksum, m::checksum);
         }
         compare("run " + seed + " isSound", () -> bit(x.isSound()), () -> bit(m.isSound()));
+    }
+
+    /** So that most calls find boxes and formulas. */
+    private static void warmUp(String run, Boxedvalue x, Model m) {
+        for (int i = 0; i < 10; i++) {
+            narrowBox(run, x, m, i);
+        }
+        for (int i = 0; i < 4; i++) {
+            int f = i;
+            typeAll(run, x, m, next(2) == 0 ? text() : CURVED[next(CURVED.length)]);
+            compare(run + " define", () -> x.define(f), () -> m.define(f));
+        }
+    }
+
+    private static void narrowBox(String run, Boxedvalue x, Model m, int shelf) {
+        int other = (shelf + 1) % 10;
+        long number = next(60) - 20;
+        long wider = number + next(20);
+        int scale = next(4);
+        compare(run + " put", () -> bit(x.put(shelf, number, scale)),
+                () -> bit(m.put(shelf, number, scale)));
+        compare(run + " put", () -> bit(x.put(other, wider, scale)),
+                () -> bit(m.put(other, wider, scale)));
+        compare(run + " join", () -> bit(x.join(shelf, shelf, other)),
+                () -> bit(m.join(shelf, shelf, other)));
     }
 
     private static void one(String run, Boxedvalue x, Model m) {
