@@ -334,6 +334,7 @@ final class Model {
     /** Reads by descent; throws a fault at the first sign that cannot stand. */
     static final class Descent {
         static final class Fault extends RuntimeException {
+            private static final long serialVersionUID = 1L;
             final int place;
 
             Fault(int place) {

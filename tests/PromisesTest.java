@@ -194,7 +194,7 @@ public final class PromisesTest {
         String[][] fine = {
             {"1", "1 1"}, {"-1.5", "-1.5 -1.5"}, {"+.5", "0.5 0.5"}, {"7.", "7 7"},
             {"-0", "0 0"}, {"-.0", "0 0"}, {"0000000000000000000012", "12 12"},
-            {"0.0000001", "0 0.000001"}, {"-0.0000001", "-0.000001 0"},
+            {"1.000000000000000", "1 1"}, {"0.0000001", "0 0.000001"}, {"-0.0000001", "-0.000001 0"},
             {".1234567890123456789012", "0.123456 0.123457"},
             {"-.1234560000000000000001", "-0.123457 -0.123456"},
             {"999999999999.999999", "999999999999.999999 999999999999.999999"},
@@ -399,6 +399,10 @@ public final class PromisesTest {
         due(x.multiply(5, 2, 2), false, "multiply of small ones");
         due(box(x, 5), "0 0.000001", "its box");
         fails(x, STATE, () -> x.multiply(5, 3, 3), "multiply too great");
+        Boxedvalue near = with("-0.999999", "-0.999999", "1.000001", "1.000001");
+        near.setDigits(10);
+        near.multiply(5, 0, 1);
+        due(box(near, 5), "-1 -0.9999999999", "a product told down to a whole number");
         two(x, "multiply", (s, a, b) -> x.multiply(s, a, b));
         promise = 22;
         Boxedvalue y = with("1", "1", "3", "3", "-2", "-1", "0", "5", "0.0000000001", "0.0000000001",
@@ -568,6 +572,9 @@ public final class PromisesTest {
         fails(x, INDEX, () -> x.solve(6, -1, false), "of a shelf below 0");
         fails(x, INDEX, () -> x.solve(6, Integer.MAX_VALUE, false), "of a shelf far beyond");
         fails(x, NONE, () -> x.solve(6, 3, false), "of a shelf that holds none");
+        for (int i = 0; i < 200; i++) {
+            due(x.solve(6, 0, true), false, "one of many in a row");
+        }
         hold(x, 4, "0.5", "0.5");
         hold(x, 0, "2", "2");
         fails(x, REFUSED, () -> x.solve(6, 0, false), "divided by 0");
@@ -826,6 +833,15 @@ public final class PromisesTest {
         due(kinds(x, 1), "1 1 1.5;", "a piece that is done with ahead of a cut");
         define(x, 0, "x*x-x");
         hold(x, 0, "0", "1.5");
+        for (String text : new String[] {"1/2-x", "x-1/2"}) {
+            for (String[] ends : new String[][] {{"0.25", "3"}, {"-3", "0.75"}}) {
+                // 1/2 is told from 0 to 1: at one end the value holds numbers on both sides of 0
+                define(x, 1, text);
+                hold(x, 1, ends[0], ends[1]);
+                due(x.zeros(1, 1, 0), 1, "zeros of " + text + " by no digits");
+                due(kinds(x, 1), "? " + ends[0] + " " + ends[1] + ";", "a value that decides nothing");
+            }
+        }
         // the middle of 0 and 1.5 is 0 by no digits, which is no cut
         due(x.zeros(0, 0, 3), 1, "zeros by no digits");
         due(kinds(x, 1), "? 0 1.5;", "a piece that cannot be cut by no digits");
@@ -833,7 +849,7 @@ public final class PromisesTest {
         fails(x, INDEX, () -> x.zeros(1, 10, 4), "zeros of no shelf");
         fails(x, ARGUMENT, () -> x.zeros(1, 7, 4), "zeros by four cuts");
         fails(x, ARGUMENT, () -> x.zeros(1, 7, -1), "zeros by a wrong cut");
-        fails(x, NONE, () -> x.zeros(1, 0, 0), "zeros of a formula not defined");
+        fails(x, NONE, () -> x.zeros(3, 0, 0), "zeros of a formula not defined");
         define(x, 2, "x+y");
         fails(x, NONE, () -> x.zeros(2, 7, 0), "zeros of none with y");
         fails(x, UNSUPPORTED, () -> x.zeros(2, 0, 0), "zeros with y");
@@ -946,6 +962,13 @@ public final class PromisesTest {
         due(x.greatest(1, 0, 0, 1), false, "greatest by one cut");
         // pieces 0 to 0.5 and 0.5 to 1: highs 0.5 and 0.75; at 0.25 and at 0.75 0.1875
         due(box(x, 1), "0.1875 0.75", "its box");
+        // by no digits 1/3 is told from 0 to 1: the value is 3 at 1, and 1 to 5 at 3
+        x = formula("3+(x-1)*(1/3-1/3)", "0", "4");
+        x.setDigits(0);
+        x.greatest(1, 0, 0, 1);
+        due(box(x, 1), "3 6", "greatest of values of different widths");
+        x.least(1, 0, 0, 1);
+        due(box(x, 1), "0 3", "least of values of different widths");
         boundsCalls("greatest", (y, s, f, a, c) -> y.greatest(s, f, a, c));
         promise = 39;
         x = formula("x", "0", "1");

@@ -1735,11 +1735,10 @@ public final class Boxedvalue {
         int makeSlope(Formula formula) {
             clear();
             depth = 0;
-            enter(formula.count - 1);
+            int status = enter(formula.count - 1);
             int next = 0;
             int last = -1;
             for (int step = 0; step < MOST_STEPS && depth > 0; step++) {
-                int status = FINE;
                 if (next <= last) {
                     status = make(formula.actAt(next), formula.numberAt(next),
                             formula.scaleAt(next));
@@ -1754,7 +1753,7 @@ public final class Boxedvalue {
                         last = sign == 'u' ? formula.leftOf(node) : node - 1;
                         next = formula.startOf(last);
                     } else if (sign == 'U' || sign == 'V') {
-                        enter(sign == 'U' ? formula.leftOf(node) : node - 1);
+                        status = enter(sign == 'U' ? formula.leftOf(node) : node - 1);
                     } else {
                         status = make(actOf(sign), numberOf(sign, exponent), byOf(sign, exponent));
                     }
@@ -1763,15 +1762,17 @@ public final class Boxedvalue {
                     return status;
                 }
             }
-            return FINE;
+            return status;
         }
 
-        private void enter(int node) {
-            if (depth < MOST_SIGNS && node >= 0) {
-                nodes[depth] = node;
-                places[depth] = 0;
-                depth++;
+        private int enter(int node) {
+            if (depth >= MOST_SIGNS || node < 0) {
+                return TOO_GREAT;
             }
+            nodes[depth] = node;
+            places[depth] = 0;
+            depth++;
+            return FINE;
         }
 
         /** Returns the sign of the latest frame's recipe at which it stands, and goes on. */
@@ -2464,9 +2465,10 @@ public final class Boxedvalue {
 
     /**
      * The curves: e to the power, the logarithm, the arc tangent. But for those of 0, 1 and 0 their
-     * numbers are never decimal ones. 54 digits are far more than are needed to tell on which side
-     * of a decimal number of ten digits one is: the nearest known comes within 1/3 of 10^-30 (the arc
-     * tangent of 10^-10), and by chance none comes within 10^-35.
+     * numbers are never decimal ones, so there is always a rest. To tell on which side of a number
+     * of ten digits one is, 54 digits are far more than it takes: the nearest one by its nature comes
+     * within 1/3 of 10^-30 (the arc tangent of 10^-10), and of the 10^22 bounds none can be expected
+     * to come within 10^-36 by chance.
      */
     private static final class Curves {
         /** The logarithms of 17/16, 19/16 and so on to 31/16, and of 2. */
