@@ -322,6 +322,9 @@ public final class ModelTest {
                 break;
             default:
                 compare(call + " decide", () -> x.decide(f, g, a), () -> m.decide(f, g, a));
+                if (next(10) == 0) {
+                    compare(call + " isSound", () -> bit(x.isSound()), () -> bit(m.isSound()));
+                }
                 break;
         }
     }

@@ -267,6 +267,9 @@ public final class PromisesTest {
         fails(x, INDEX, () -> x.meet(-1, 7, 7), "meet onto no shelf");
         fails(x, INDEX, () -> x.meet(0, 7, 10), "meet of no shelf");
         fails(x, NONE, () -> x.meet(0, 0, 7), "meet with none");
+        hold(x, 0, "-1", "1");
+        fails(x, NONE, () -> x.meet(0, 0, 7), "meet of 0 with none");
+        fails(x, NONE, () -> x.meet(0, 7, 0), "meet of none with 0");
         textsOfBounds();
         comparing();
     }
@@ -403,6 +406,13 @@ public final class PromisesTest {
         near.setDigits(10);
         near.multiply(5, 0, 1);
         due(box(near, 5), "-1 -0.9999999999", "a product told down to a whole number");
+        due(near.sure(5), 9, "sure of it");
+        for (int i = 0; i < 300; i++) {
+            due(near.multiply(6, 1, 1), false, "one of many in a row");
+            due(near.apply(6, 1, '-'), true, "one of many in a row");
+            due(near.put(6, i, 0), true, "one of many in a row");
+            due(near.constant(6, 'p'), false, "one of many in a row");
+        }
         two(x, "multiply", (s, a, b) -> x.multiply(s, a, b));
         promise = 22;
         Boxedvalue y = with("1", "1", "3", "3", "-2", "-1", "0", "5", "0.0000000001", "0.0000000001",
@@ -1116,6 +1126,9 @@ public final class PromisesTest {
             long before = z.checksum();
             due(z.isSound(), true, "isSound by " + digits + " digits");
             due(z.checksum(), before, "the checksum behind isSound");
+            z.put(5, 5, 11);
+            due(high(z, 5), digits == 10 ? "0.0000000001" : digits == 0 ? "1"
+                    : "0." + "0".repeat(digits - 1) + "1", "the digits behind isSound");
         }
     }
 
