@@ -1,107 +1,18 @@
 import java.util.NoSuchElementException;
 
 /** Each promise by its number: ordinary inputs, the edges that the document names, wrong inputs. */
-public final class PromisesTest {
+public final class PromisesTest extends Bench {
     private static final Class<?> INDEX = IndexOutOfBoundsException.class;
     private static final Class<?> ARGUMENT = IllegalArgumentException.class;
     private static final Class<?> NONE = NoSuchElementException.class;
     private static final Class<?> STATE = IllegalStateException.class;
     private static final Class<?> REFUSED = ArithmeticException.class;
     private static final Class<?> UNSUPPORTED = UnsupportedOperationException.class;
-    private static int wrong;
-    private static int checks;
-    private static int promise;
 
     private PromisesTest() { }
 
-    private interface Call {
-        Object make();
-    }
-
-    private static void due(Object got, Object want, String what) {
-        checks++;
-        if (!String.valueOf(got).equals(String.valueOf(want))) {
-            wrong++;
-            System.out.println("promise " + promise + ": " + what + " answered " + got
-                    + ", due is " + want);
-        }
-    }
-
-    /** The call throws just that, and changes nothing that the checksum tells. */
-    private static void fails(Boxedvalue x, Class<?> want, Call call, String what) {
-        long before = x.checksum();
-        Object got;
-        try {
-            got = call.make();
-        } catch (RuntimeException thrown) {
-            got = thrown.getClass();
-        }
-        due(got, want, what);
-        due(x.checksum(), before, "the checksum behind " + what);
-    }
-
-    private static Boxedvalue type(Boxedvalue x, String text) {
-        x.erase();
-        for (char sign : text.toCharArray()) {
-            x.type(sign);
-        }
-        return x;
-    }
-
-    private static String signs(Boxedvalue x, int count) {
-        StringBuilder text = new StringBuilder();
-        for (int i = 0; i < count; i++) {
-            text.append(x.signAt(i));
-        }
-        return text.toString();
-    }
-
-    private static String low(Boxedvalue x, int shelf) {
-        return signs(x, x.low(shelf));
-    }
-
-    private static String high(Boxedvalue x, int shelf) {
-        return signs(x, x.high(shelf));
-    }
-
-    private static String box(Boxedvalue x, int shelf) {
-        return low(x, shelf) + " " + high(x, shelf);
-    }
-
-    /** Lets a shelf be a box by ten digits, whatever digits there are; keeps three calls. */
-    private static void hold(Boxedvalue x, int shelf, String low, String high) {
-        int spare = shelf == 9 ? 8 : 9;
-        int digits = x.setDigits(10);
-        type(x, low).read(shelf);
-        if (!low.equals(high)) {
-            type(x, high).read(spare);
-            x.join(shelf, shelf, spare);
-        }
-        x.setDigits(digits);
-    }
-
-    private static Boxedvalue with(String... bounds) {
-        Boxedvalue x = new Boxedvalue();
-        for (int i = 0; i < bounds.length; i += 2) {
-            hold(x, i / 2, bounds[i], bounds[i + 1]);
-        }
-        return x;
-    }
-
-    private static void define(Boxedvalue x, int formula, String text) {
-        if (type(x, text).define(formula) < 0) {
-            throw new IllegalStateException("a test's formula has a fault: " + text);
-        }
-    }
-
-    private static Boxedvalue formula(String text, String low, String high) {
-        Boxedvalue x = with(low, high);
-        define(x, 0, text);
-        return x;
-    }
-
     private static void digitsAndText() {
-        promise = 1;
+        about("promise 1");
         Boxedvalue x = new Boxedvalue();
         due(x.digits(), 6, "digits of a new object");
         due(x.held(), 0, "held of a new object");
@@ -112,21 +23,21 @@ public final class PromisesTest {
         }
         fails(x, NONE, () -> x.undo(), "undo of a new object");
         fails(x, NONE, () -> x.pieceKind(0), "pieceKind of a new object");
-        promise = 2;
+        about("promise 2");
         due(x.setDigits(0), 6, "setDigits(0)");
         due(x.setDigits(10), 0, "setDigits(10)");
         due(x.setDigits(10), 10, "setDigits(10) again");
         fails(x, ARGUMENT, () -> x.setDigits(11), "setDigits(11)");
         fails(x, ARGUMENT, () -> x.setDigits(-1), "setDigits(-1)");
         fails(x, ARGUMENT, () -> x.setDigits(Integer.MIN_VALUE), "setDigits(least)");
-        promise = 3;
+        about("promise 3");
         due(x.digits(), 10, "digits");
         x.setDigits(3);
         due(x.digits(), 3, "digits");
         Boxedvalue kept = with("0.12345", "0.12345");
         kept.setDigits(2);
         due(box(kept, 0), "0.12345 0.12345", "a box that is there as the digits change");
-        promise = 4;
+        about("promise 4");
         due(x.type(' '), 1, "type of 32");
         due(x.type('~'), 2, "type of 126");
         fails(x, ARGUMENT, () -> x.type((char) 31), "type of 31");
@@ -137,13 +48,13 @@ public final class PromisesTest {
         }
         fails(x, STATE, () -> x.type('a'), "type behind 60 signs");
         fails(x, ARGUMENT, () -> x.type('\n'), "type of a wrong sign behind 60 signs");
-        promise = 6;
+        about("promise 6");
         due(x.signAt(0), ' ', "signAt(0)");
         due(x.signAt(1), '~', "signAt(1)");
         due(x.signAt(59), 'a', "signAt(59)");
         fails(x, ARGUMENT, () -> x.signAt(60), "signAt(60)");
         fails(x, ARGUMENT, () -> x.signAt(-1), "signAt(-1)");
-        promise = 5;
+        about("promise 5");
         due(x.erase(), 60, "erase");
         due(x.erase(), 0, "erase of an empty text");
         fails(x, ARGUMENT, () -> x.signAt(0), "signAt of an empty text");
@@ -151,7 +62,7 @@ public final class PromisesTest {
     }
 
     private static void putting() {
-        promise = 7;
+        about("promise 7");
         Boxedvalue x = new Boxedvalue();
         due(x.put(0, 12345678, 6), true, "put of six digits");
         due(box(x, 0), "12.345678 12.345678", "its box");
@@ -189,7 +100,7 @@ public final class PromisesTest {
     }
 
     private static void reading() {
-        promise = 8;
+        about("promise 8");
         Boxedvalue x = new Boxedvalue();
         String[][] fine = {
             {"1", "1 1"}, {"-1.5", "-1.5 -1.5"}, {"+.5", "0.5 0.5"}, {"7.", "7 7"},
@@ -222,7 +133,7 @@ public final class PromisesTest {
         type(x, "x");
         fails(x, INDEX, () -> x.read(10), "read onto no shelf");
         fails(x, INDEX, () -> x.read(-1), "read onto no shelf");
-        promise = 9;
+        about("promise 9");
         due(x.constant(0, 'p'), false, "pi");
         due(box(x, 0), "3.141592 3.141593", "pi by six digits");
         due(x.constant(0, 'e'), false, "e");
@@ -241,7 +152,7 @@ public final class PromisesTest {
 
     private static void boxes() {
         Boxedvalue x = with("1", "2", "2", "3", "2.5", "4", "-1", "-1", "2", "2");
-        promise = 10;
+        about("promise 10");
         due(x.join(5, 0, 2), false, "join");
         due(box(x, 5), "1 4", "its box");
         due(x.join(5, 2, 0), false, "join the other way");
@@ -256,7 +167,7 @@ public final class PromisesTest {
         fails(x, INDEX, () -> x.join(0, 7, -1), "join of no shelf");
         fails(x, NONE, () -> x.join(0, 7, 1), "join of none");
         fails(x, NONE, () -> x.join(0, 1, 7), "join with none");
-        promise = 11;
+        about("promise 11");
         due(x.meet(5, 0, 1), true, "meet at one number");
         due(box(x, 5), "2 2", "its box");
         due(x.meet(5, 1, 2), false, "meet");
@@ -275,7 +186,7 @@ public final class PromisesTest {
     }
 
     private static void textsOfBounds() {
-        promise = 12;
+        about("promise 12");
         Boxedvalue x = with("-0.05", "12.5", "0.0000000001", "999999999999.9999999999",
                 "-999999999999.9999999999", "999999999999.9999999999", "0", "0");
         due(x.low(0), 5, "low");
@@ -285,13 +196,13 @@ public final class PromisesTest {
         due(x.low(2), 24, "the longest low bound");
         fails(x, INDEX, () -> x.low(10), "low of no shelf");
         fails(x, NONE, () -> x.low(7), "low of none");
-        promise = 13;
+        about("promise 13");
         due(x.high(0), 4, "high");
         due(signs(x, 4), "12.5", "its text");
         due(high(x, 1), "999999999999.9999999999", "the greatest bound");
         fails(x, INDEX, () -> x.high(-1), "high of no shelf");
         fails(x, NONE, () -> x.high(7), "high of none");
-        promise = 14;
+        about("promise 14");
         due(x.width(0), 5, "width");
         due(signs(x, 5), "12.55", "its text");
         due(x.width(3), 1, "width of a single box");
@@ -304,7 +215,7 @@ public final class PromisesTest {
 
     private static void comparing() {
         Boxedvalue x = with("1", "2", "2", "3", "1.5", "2", "-1", "-1", "2", "2", "2", "2", "3.5", "4");
-        promise = 15;
+        about("promise 15");
         due(x.isWithin(2, 0), true, "isWithin");
         due(x.isWithin(0, 2), false, "isWithin the other way");
         due(x.isWithin(0, 0), true, "isWithin itself");
@@ -314,7 +225,7 @@ public final class PromisesTest {
         fails(x, INDEX, () -> x.isWithin(7, -1), "isWithin no shelf");
         fails(x, NONE, () -> x.isWithin(7, 0), "isWithin of none");
         fails(x, NONE, () -> x.isWithin(0, 7), "isWithin none");
-        promise = 16;
+        about("promise 16");
         due(x.compare(3, 0), -1, "compare of less");
         due(x.compare(0, 3), 1, "compare of greater");
         due(x.compare(4, 5), 0, "compare of single and the same");
@@ -326,7 +237,7 @@ public final class PromisesTest {
         fails(x, INDEX, () -> x.compare(7, 10), "compare with no shelf");
         fails(x, NONE, () -> x.compare(7, 0), "compare of none");
         fails(x, NONE, () -> x.compare(0, 7), "compare with none");
-        promise = 17;
+        about("promise 17");
         Boxedvalue y = with("1.23456", "1.23457", "1.5", "1.5", "1.9", "2", "-0.5", "0.5",
                 "-0.0000000002", "-0.0000000001", "1.2345678901", "1.2345678902", "1.1", "1.19");
         due(y.sure(0), 4, "sure");
@@ -341,7 +252,7 @@ public final class PromisesTest {
     }
 
     private static void undoing() {
-        promise = 18;
+        about("promise 18");
         Boxedvalue x = new Boxedvalue();
         x.put(0, 1, 0);
         x.put(1, 2, 0);
@@ -375,7 +286,7 @@ public final class PromisesTest {
     }
 
     private static void acts() {
-        promise = 19;
+        about("promise 19");
         Boxedvalue x = with("1.25", "2.5", "-1", "3", "0.00000004", "0.00000004", "999999999999",
                 "999999999999", "1", "1");
         due(x.add(5, 0, 1), false, "add");
@@ -384,7 +295,7 @@ public final class PromisesTest {
         due(box(x, 5), "1 1.000001", "its box, told by six digits");
         fails(x, STATE, () -> x.add(5, 3, 4), "add too great");
         two(x, "add", (s, a, b) -> x.add(s, a, b));
-        promise = 20;
+        about("promise 20");
         due(x.subtract(5, 0, 1), false, "subtract");
         due(box(x, 5), "-1.75 3.5", "its box");
         due(x.subtract(5, 4, 4), true, "subtract of the same");
@@ -394,7 +305,7 @@ public final class PromisesTest {
         x.apply(6, 4, '-');
         fails(x, STATE, () -> x.subtract(5, 3, 6), "subtract too great");
         two(x, "subtract", (s, a, b) -> x.subtract(s, a, b));
-        promise = 21;
+        about("promise 21");
         due(x.multiply(5, 0, 1), false, "multiply");
         due(box(x, 5), "-2.5 7.5", "its box");
         due(x.multiply(5, 1, 1), false, "multiply with itself");
@@ -414,7 +325,7 @@ public final class PromisesTest {
             due(near.constant(6, 'p'), false, "one of many in a row");
         }
         two(x, "multiply", (s, a, b) -> x.multiply(s, a, b));
-        promise = 22;
+        about("promise 22");
         Boxedvalue y = with("1", "1", "3", "3", "-2", "-1", "0", "5", "0.0000000001", "0.0000000001",
                 "999999999999", "999999999999", "-6", "4");
         due(y.divide(7, 0, 1), false, "divide");
@@ -455,7 +366,7 @@ public final class PromisesTest {
     }
 
     private static void powers() {
-        promise = 23;
+        about("promise 23");
         Boxedvalue x = with("-2", "1", "1.5", "2", "-3", "-2", "0.0000000001", "0.0000000001",
                 "999999.9999999999", "999999.9999999999", "1000000", "1000000", "0", "0");
         due(x.power(8, 0, 2), false, "an even power across 0");
@@ -488,7 +399,7 @@ public final class PromisesTest {
         fails(x, ARGUMENT, () -> x.power(0, 7, 10), "a power by 10");
         fails(x, ARGUMENT, () -> x.power(0, 7, -1), "a power by -1");
         fails(x, NONE, () -> x.power(0, 7, 2), "a power of none");
-        promise = 24;
+        about("promise 24");
         Boxedvalue y = with("2", "9", "0", "0.0000000001", "-0.0000000001", "4", "8", "8", "16", "16",
                 "999999999999.9999999999", "999999999999.9999999999", "0.0001", "0.0001");
         due(y.root(8, 0, 2), false, "a root");
@@ -516,7 +427,7 @@ public final class PromisesTest {
     }
 
     private static void applying() {
-        promise = 25;
+        about("promise 25");
         Boxedvalue x = with("-2", "1", "1", "1", "0", "0", "28", "28", "-40", "-30", "-3", "-2",
                 "1.23456789", "1.23456789", "0.0000000001", "1");
         due(x.apply(8, 0, '-'), false, "the negative");
@@ -564,7 +475,7 @@ public final class PromisesTest {
     }
 
     private static void solving() {
-        promise = 26;
+        about("promise 26");
         // 2 u + 1 v = 5, 1 u + 3 v = 10: u = 1, v = 3
         Boxedvalue x = with("2", "2", "1", "1", "5", "5", "1", "1", "3", "3", "10", "10");
         due(x.solve(6, 0, false), true, "u");
@@ -609,7 +520,7 @@ public final class PromisesTest {
     }
 
     private static void defining() {
-        promise = 27;
+        about("promise 27");
         String[] fine = {"x", "1", "p", "y", "-x", "x^2-2", "((((x))))", "x+1/2*y-3", "1.5", "0.00000000001",
             "123456789012", "--x", "relax", "-(x)^0", "x^2*x^3", "e(x)^9/r-l2.5", "ax", "(x+1)*(x-1)"};
         int[] parts = {1, 1, 1, 1, 2, 4, 1, 9, 1, 1, 1, 3, 5, 3, 5, 8, 2, 7};
@@ -640,7 +551,7 @@ public final class PromisesTest {
         due(x.define(3), -31, "define with a fault among parentheses");
         type(x, "(".repeat(29) + "x" + ")".repeat(29));
         due(x.define(3), 1, "define of parentheses");
-        promise = 28;
+        about("promise 28");
         due(x.hasY(3), false, "hasY without one");
         define(x, 0, "x+r(2*y)");
         due(x.hasY(0), true, "hasY with one");
@@ -682,7 +593,7 @@ public final class PromisesTest {
     }
 
     private static void values() {
-        promise = 29;
+        about("promise 29");
         value("x", "1 2");
         value("y", "-1 3");
         value("p", "3.141592 3.141593");
@@ -720,7 +631,7 @@ public final class PromisesTest {
         due(x.value(1, 0, 0, 0), false, "a value that is told");
         due(box(x, 1), "0.1 0.2", "its box");
         formulaCalls("value", (y, s, f, a, b) -> y.value(s, f, a, b));
-        promise = 30;
+        about("promise 30");
         slope("x", "1 1");
         slope("y", "0 0");
         slope("p", "0 0");
@@ -776,7 +687,7 @@ public final class PromisesTest {
     }
 
     private static void deciding() {
-        promise = 31;
+        about("promise 31");
         due(decided("x", "x+2", "1", "1"), 0, "decide of less by no digits");
         due(decided("x+2", "x", "1", "1"), 20, "decide of greater by no digits");
         due(decided("p", "3.15", "1", "1"), 3, "decide by three digits");
@@ -818,7 +729,7 @@ public final class PromisesTest {
     }
 
     private static void zeros() {
-        promise = 32;
+        about("promise 32");
         due(zeros("x^2-2", "1", "2", 0), "1 1 2;", "one zero");
         due(zeros("x^2-2", "2", "3", 0), "", "no zero");
         due(zeros("x^2-2", "-2", "2", 0), "? -2 2;", "two zeros, no cut");
@@ -868,14 +779,14 @@ public final class PromisesTest {
     }
 
     private static void pieces() {
-        promise = 33;
+        about("promise 33");
         Boxedvalue x = formula("x^2-2", "-2", "2");
         due(x.zeros(0, 0, 2), 2, "zeros");
         due(x.pieceKind(0), '1', "pieceKind");
         due(x.pieceKind(1), '1', "pieceKind");
         fails(x, NONE, () -> x.pieceKind(2), "pieceKind beyond");
         fails(x, NONE, () -> x.pieceKind(-1), "pieceKind below 0");
-        promise = 34;
+        about("promise 34");
         due(x.piece(1, 0), false, "piece");
         due(box(x, 1), "-2 -1", "its box");
         due(x.piece(1, 1), false, "piece");
@@ -898,7 +809,7 @@ public final class PromisesTest {
     }
 
     private static void narrowing() {
-        promise = 35;
+        about("promise 35");
         Boxedvalue x = formula("x^2-2", "1", "2");
         due(x.narrow(1, 0, 0), false, "narrow");
         // 1.5 - 0.25 / [2, 4] is from 1.375 to 1.4375
@@ -927,7 +838,7 @@ public final class PromisesTest {
         define(x, 2, "y");
         fails(x, NONE, () -> y.narrow(0, 2, 7), "narrow of none");
         fails(x, UNSUPPORTED, () -> y.narrow(0, 2, 0), "narrow with y");
-        promise = 36;
+        about("promise 36");
         Boxedvalue z = with("-1", "1", "-1", "1");
         define(z, 0, "x^2+y^2-1");
         define(z, 1, "x-y");
@@ -954,7 +865,7 @@ public final class PromisesTest {
     }
 
     private static void bounds() {
-        promise = 37;
+        about("promise 37");
         Boxedvalue x = formula("x^2-2", "-1", "2");
         due(x.least(1, 0, 0, 0), false, "least");
         due(box(x, 1), "-2 -1.75", "its box");
@@ -965,7 +876,7 @@ public final class PromisesTest {
         due(x.least(1, 0, 0, 3), true, "least of a single box");
         due(box(x, 1), "7 7", "its box");
         boundsCalls("least", (y, s, f, a, c) -> y.least(s, f, a, c));
-        promise = 38;
+        about("promise 38");
         x = formula("x-x^2", "0", "1");
         due(x.greatest(1, 0, 0, 0), false, "greatest");
         due(box(x, 1), "0.25 1", "its box");
@@ -980,7 +891,7 @@ public final class PromisesTest {
         x.least(1, 0, 0, 1);
         due(box(x, 1), "0 3", "least of values of different widths");
         boundsCalls("greatest", (y, s, f, a, c) -> y.greatest(s, f, a, c));
-        promise = 39;
+        about("promise 39");
         x = formula("x", "0", "1");
         due(x.area(1, 0, 0, 0), false, "area");
         due(box(x, 1), "0 1", "its box");
@@ -1033,7 +944,7 @@ public final class PromisesTest {
     }
 
     private static void moving() {
-        promise = 40;
+        about("promise 40");
         Boxedvalue x = formula("1", "0", "0");
         due(x.move(1, 0, 0, 500), true, "move by a steady speed");
         due(box(x, 1), "0.5 0.5", "its box");
@@ -1082,7 +993,7 @@ public final class PromisesTest {
     }
 
     private static void figures() {
-        promise = 41;
+        about("promise 41");
         Boxedvalue x = new Boxedvalue();
         due(x.held(), 0, "held");
         x.put(0, 1, 0);
@@ -1093,7 +1004,7 @@ public final class PromisesTest {
         due(x.held(), 2, "held behind undo");
         x.undo();
         due(x.held(), 1, "held behind undo");
-        promise = 42;
+        about("promise 42");
         Boxedvalue y = new Boxedvalue();
         long sum = 7 * 31 + 6;
         for (int i = 0; i < 10; i++) {
@@ -1114,7 +1025,7 @@ public final class PromisesTest {
             }
         }
         due(y.checksum(), sum, "checksum with boxes");
-        promise = 43;
+        about("promise 43");
         due(new Boxedvalue().isSound(), true, "isSound of a new object");
         for (int digits = 0; digits <= 10; digits++) {
             Boxedvalue z = with("-1.5", "2.25", "0.1", "0.1", "1", "3", "0", "999999999999");
@@ -1149,10 +1060,6 @@ public final class PromisesTest {
         narrowing();
         bounds();
         figures();
-        System.out.println("PromisesTest: " + (wrong == 0 ? checks + " answers are as due"
-                : wrong + " answers are not as due"));
-        if (wrong != 0) {
-            System.exit(1);
-        }
+        tell("PromisesTest");
     }
 }
