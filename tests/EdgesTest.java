@@ -234,6 +234,21 @@ public final class EdgesTest extends Bench {
         return number.signum() == 0 ? "0" : number.stripTrailingZeros().toPlainString();
     }
 
+    private static void constants() {
+        about("constant: pi and e by all numbers of digits");
+        Boxedvalue x = new Boxedvalue();
+        BigDecimal[] values = {number("3.14159265358979323846"), number("2.71828182845904523536")};
+        for (int digits = 0; digits <= 10; digits++) {
+            x.setDigits(digits);
+            for (int i = 0; i < 2; i++) {
+                char which = "pe".charAt(i);
+                becomes(x, plain(values[i].setScale(digits, RoundingMode.FLOOR)) + " "
+                        + plain(values[i].setScale(digits, RoundingMode.CEILING)),
+                        which + " by " + digits + " digits", () -> x.constant(7, which));
+            }
+        }
+    }
+
     // ---- what acts make, too great, refused
 
     private static void acts() {
@@ -262,6 +277,7 @@ public final class EdgesTest extends Bench {
         becomes(x, "-5 5", "a difference with itself", () -> x.subtract(7, 1, 1));
         becomes(x, "-6 4", "a sum with itself", () -> x.add(7, 1, 1));
         x.setDigits(10);
+        becomes(x, "0 " + MOST, "all numbers without their signs", () -> x.apply(7, 2, 'b'));
         hold(x, 6, LEAST, MOST);
         becomes(x, "-23.02585093 27.631021116", "the logarithm of all numbers above 0",
                 () -> x.apply(7, 6, 'l'));
@@ -356,6 +372,33 @@ public final class EdgesTest extends Bench {
         becomes(x, "-23.025851 0", "the logarithm of numbers above 0", () -> x.apply(7, 4, 'l'));
         for (int shelf : new int[] {0, 1, 2, 3, 5}) {
             becomes(x, REFUSED, "the logarithm of shelf " + shelf, () -> x.apply(7, shelf, 'l'));
+        }
+    }
+
+    private static void solving() {
+        about("solve: one of the six holds none");
+        for (int none = 0; none < 6; none++) {
+            for (int first = 0; first <= 4; first++) {
+                Boxedvalue x = new Boxedvalue();
+                for (int i = 0; i < 6; i++) {
+                    if (i != none) {
+                        x.put(first + i, i * i + 1, 0);
+                    }
+                }
+                int from = first;
+                fails(x, NONE, () -> x.solve(0, from, false), "solve without number " + none);
+                x.put(first + none, none * none + 1, 0);
+                // 1 u + 2 v = 5, 10 u + 17 v = 26: u = -11, v = 8
+                becomes(x, "-11 -11", "u", () -> x.solve(7, from, false));
+                x.undo();
+                becomes(x, "8 8", "v", () -> x.solve(7, from, true));
+                x.undo();
+                for (int shelf = 0; shelf < 10; shelf++) {
+                    due(x.solve(shelf, from, true), true, "solve onto shelf " + shelf);
+                    due(box(x, shelf), "8 8", "its box");
+                    x.undo();
+                }
+            }
         }
     }
 
@@ -899,6 +942,28 @@ public final class EdgesTest extends Bench {
         decide("0.00000000001", "x", -1);
         decide("0.1", "0.2", 1);
         decide("0.2", "0.1", 21);
+        about("the digits that there are stay, behind decide and behind isSound");
+        for (int digits = 0; digits <= 10; digits++) {
+            Boxedvalue x = formula("x", "0", "0");
+            define(x, 1, "p");
+            String due = (digits == 0 ? "0" : "0." + "3".repeat(digits)) + " "
+                    + (digits == 0 ? "1" : "0." + "3".repeat(digits - 1) + "4");
+            x.setDigits(digits);
+            x.put(1, 1, 0);
+            x.put(2, 3, 0);
+            x.decide(0, 1, 0);
+            becomes(x, due, "a third behind decide", () -> x.divide(7, 1, 2));
+            x.decide(0, 0, 0);
+            becomes(x, due, "a third behind decide of the same", () -> x.divide(7, 1, 2));
+            due(x.isSound(), true, "isSound");
+            becomes(x, due, "a third behind isSound", () -> x.divide(7, 1, 2));
+            Boxedvalue y = new Boxedvalue();
+            y.setDigits(digits);
+            y.put(1, 1, 0);
+            y.put(2, 3, 0);
+            due(y.isSound(), true, "isSound without formulas");
+            becomes(y, due, "a third behind it", () -> y.divide(7, 1, 2));
+        }
         about("what is refused or too great decides nothing");
         decide("1/x", "5", -1);
         decide("5", "rx+1/x", -1);
@@ -976,6 +1041,30 @@ public final class EdgesTest extends Bench {
         due(x.pieceKind(7), '?', "pieceKind");
         due(x.zeros(1, 0, 3), 0, "zeros of none");
         fails(x, NONE, () -> x.pieceKind(0), "pieceKind of none");
+    }
+
+    private static void pairing() {
+        about("pairs: the values of both formulas can be 0");
+        Boxedvalue x = by(6, "0", "2", "1", "3", "0", "0");
+        String[] texts = {"x", "y-3", "x-2", "y-0.999999", "1/x", "e(x*99)", "e99", "0", "1"};
+        int[] first = {2, 2, 2, 0, 2, 4, 4, 4, 0};
+        for (int i = 0; i < texts.length; i++) {
+            define(x, 0, texts[i]);
+            define(x, 1, "0");
+            due(x.pairs(0, 1, 0, 1, 1), first[i], "of " + texts[i] + " and 0");
+            due(x.pairs(1, 0, 0, 1, 1), first[i], "of 0 and " + texts[i]);
+            define(x, 1, "1");
+            due(x.pairs(0, 1, 0, 1, 1), 0, "of " + texts[i] + " and 1");
+            due(x.pairs(1, 0, 0, 1, 1), 0, "of 1 and " + texts[i]);
+        }
+        about("pairs: both boxes are cut as often as told, 0 to 2, where they can be");
+        define(x, 0, "0");
+        for (int cuts = 0; cuts <= 2; cuts++) {
+            due(x.pairs(0, 0, 0, 1, cuts), 1 << 2 * cuts, "of two boxes by " + cuts + " cuts");
+            due(x.pairs(0, 0, 0, 2, cuts), 1 << cuts, "of one and a single one");
+            due(x.pairs(0, 0, 2, 1, cuts), 1 << cuts, "of a single one and one");
+            due(x.pairs(0, 0, 2, 2, cuts), 1, "of two single ones");
+        }
     }
 
     private static void narrowing() {
@@ -1120,9 +1209,31 @@ public final class EdgesTest extends Bench {
     private static void calls() {
         about("an object is used for at most 512 calls");
         Boxedvalue x = new Boxedvalue();
+        for (int i = 0; i < 512; i++) {
+            due(x.constant(i % 10, 'p'), false, "constant " + i);
+        }
+        due(box(x, 511 % 10), "3.141592 3.141593", "the last one's box");
+        Step[] steps = {
+            y -> type(y, "5").read(8), y -> y.add(8, 0, 2), y -> y.apply(8, 2, 'e'),
+            y -> y.power(8, 0, 2), y -> y.solve(8, 1, true), y -> y.value(8, 0, 0, 0),
+            y -> y.slope(8, 0, 0, 0), y -> y.narrow(8, 0, 0), y -> y.least(8, 0, 0, 3),
+            y -> y.area(8, 0, 0, 3), y -> y.move(8, 0, 0, 1), y -> y.zeros(0, 0, 3),
+            y -> y.pairs(0, 0, 0, 0, 2), y -> y.decide(0, 0, 0), y -> y.isSound(),
+        };
+        for (Step step : steps) {
+            Boxedvalue y = stage();
+            y.put(8, 1, 0);
+            Object first = step.make(y);
+            String box = box(y, 8);
+            for (int i = 1; i < 512; i++) {
+                due(step.make(y), first, "the same call again");
+            }
+            due(box(y, 8), box, "the box behind it");
+        }
+        x = new Boxedvalue();
         for (int i = 0; i < 255; i++) {
             due(x.put(i % 10, i, 0), true, "put " + i);
-            due(x.type('7') <= 60, true, "type");
+            due(x.type('7'), i % 50 + 1, "type");
             if (i % 50 == 49) {
                 due(x.erase(), 50, "erase");
             }
@@ -1137,9 +1248,11 @@ public final class EdgesTest extends Bench {
         tubesAreTrue();
         boxes();
         digits();
+        constants();
         acts();
         tooGreat();
         refused();
+        solving();
         texts();
         faults();
         values();
@@ -1149,6 +1262,7 @@ public final class EdgesTest extends Bench {
         figures();
         deciding();
         looking();
+        pairing();
         narrowing();
         bounds();
         moving();
