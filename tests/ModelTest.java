@@ -27,7 +27,9 @@ public final class ModelTest {
         } catch (IndexOutOfBoundsException | NoSuchElementException | ArithmeticException
                 | UnsupportedOperationException | IllegalArgumentException
                 | IllegalStateException thrown) {
-            return thrown.getClass().getSimpleName();
+            // the machine's own one, of a division by 0, is of the class that the document names
+            boolean isMachines = "/ by zero".equals(thrown.getMessage());
+            return thrown.getClass().getSimpleName() + (isMachines ? " of the machine" : "");
         }
     }
 
